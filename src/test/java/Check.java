@@ -1,0 +1,55 @@
+/** Counts the answers that are not as due, and tells of each. */
+final class Check {
+    interface Call {
+        Object answer();
+    }
+
+    interface Deed {
+        void happens();
+    }
+
+    static final Class<? extends Exception> INDEX = IndexOutOfBoundsException.class;
+    static final Class<? extends Exception> ARGUMENT = IllegalArgumentException.class;
+    static final Class<? extends Exception> STATE = IllegalStateException.class;
+
+    private static int asked = 0;
+    private static int wrong = 0;
+
+    private Check() {
+    }
+
+    static void same(String what, Object got, Object want) {
+        asked++;
+        if (!want.equals(got)) {
+            wrong++;
+            if (wrong <= 50) {
+                System.out.println("  " + what + ": answered " + got + ", due is " + want);
+            }
+        }
+    }
+
+    static void refused(String what, Class<? extends Exception> due, Call call) {
+        Object got;
+        try {
+            got = call.answer();
+        } catch (RuntimeException e) {
+            got = e.getClass();
+        }
+        same(what, got, due);
+    }
+
+    static void refusedDeed(String what, Class<? extends Exception> due, Deed deed) {
+        refused(what, due, () -> {
+            deed.happens();
+            return "nothing thrown";
+        });
+    }
+
+    /** Ends the test, with exit code 1 if an answer was wrong. */
+    static void end() {
+        System.out.println("  " + asked + " answers asked, " + wrong + " not as due");
+        if (wrong != 0 || asked == 0) {
+            System.exit(1);
+        }
+    }
+}
