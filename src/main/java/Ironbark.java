@@ -387,7 +387,6 @@ public final class Ironbark {
     }
 
     public int freeTracks(int station) throws IndexOutOfBoundsException {
-        requireStation(station);
         return freeTracksAt(station);
     }
 
@@ -422,7 +421,7 @@ public final class Ironbark {
             case 0:
                 return t.state;
             case 1:
-                return t.state == WRECKED ? NONE : t.station;
+                return t.station;
             case 2:
                 return t.block;
             case 3:
@@ -469,13 +468,13 @@ public final class Ironbark {
 
     public int paper(int car, int paper) throws IndexOutOfBoundsException {
         Car c = carOf(car);
-        requireIndex(paper, Integer.MAX_VALUE);
+        requireFromZero(paper);
         return c.papers.at(paper);
     }
 
     public int yardAt(int station, int place) throws IndexOutOfBoundsException {
         Station s = stationOf(station);
-        requireIndex(place, Integer.MAX_VALUE);
+        requireFromZero(place);
         return s.yard.at(place);
     }
 
@@ -509,6 +508,12 @@ public final class Ironbark {
     private static void requireIndex(int index, int count) {
         if (index < 0 || index >= count) {
             throw new IndexOutOfBoundsException("there is none of this number");
+        }
+    }
+
+    private static void requireFromZero(int index) {
+        if (index < 0) {
+            throw new IndexOutOfBoundsException("below 0");
         }
     }
 
@@ -599,7 +604,6 @@ public final class Ironbark {
         for (int i = 0; i < t.cars.count; i++) {
             bringToYard(t.cars.at(i), station);
         }
-        t.cars.empty();
     }
 
     /** Ends a train; its engine and crew come to a station. */
@@ -736,7 +740,7 @@ public final class Ironbark {
         int best = NONE;
         int bestRank = NONE;
         for (int i = 0; i < trains.length; i++) {
-            boolean isAsked = (asked & 1 << i) != 0;
+            boolean isAsked = (asked & (1 << i)) != 0;
             if (trains[i].state == READY && !isAsked && trains[i].rank > bestRank) {
                 best = i;
                 bestRank = trains[i].rank;
@@ -808,7 +812,7 @@ public final class Ironbark {
             return 7;
         }
         Crew c = crewOf(t.crew);
-        if ((c.known & 1 << number) == 0) {
+        if ((c.known & (1 << number)) == 0) {
             return 8;
         }
         if (c.isRestingAt(now) || c.duty + minutes > MOST_DUTY) {
@@ -1016,7 +1020,7 @@ public final class Ironbark {
         private int engine = NONE;
         private int crew = NONE;
         private int power = 1;
-        /** Where it stands, or to where it runs. */
+        /** Where it stands, or to where it runs; NONE if it is wrecked. */
         private int station = NONE;
         private int block = NONE;
         private int arrival = 0;
@@ -1058,7 +1062,6 @@ public final class Ironbark {
             block = number;
             way.empty();
             entered = 0;
-            Arrays.fill(clearAt, 0);
         }
 
         boolean stands() {
@@ -1066,7 +1069,7 @@ public final class Ironbark {
         }
 
         boolean takesTrackAt(int place) {
-            return state != NONE && state != WRECKED && station == place;
+            return state != NONE && station == place;
         }
 
         int nextBlock() {

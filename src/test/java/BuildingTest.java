@@ -57,6 +57,8 @@ public final class BuildingTest {
         Check.same("3 open", x.block(1, 1), 0);
         Check.refused("3 first end", Check.INDEX, () -> x.lay(-1, 1, 1, 0));
         Check.refused("3 second end", Check.INDEX, () -> x.lay(8, 8, 1, 9));
+        Check.refused("3 the second alone", Check.INDEX, () -> x.lay(0, 8, 2, 0));
+        Check.refused("3 the second alone", Check.INDEX, () -> x.lay(0, -1, 2, 0));
         Check.refused("3 the same", Check.ARGUMENT, () -> x.lay(1, 1, 5, 0));
         Check.refused("3 minutes 1", Check.ARGUMENT, () -> x.lay(0, 1, 1, 0));
         Check.refused("3 minutes 61", Check.ARGUMENT, () -> x.lay(0, 1, 61, 0));
@@ -117,6 +119,8 @@ public final class BuildingTest {
         Check.same("6 the minute now", x.barred(0), 6);
         x.hours(0, 0, 0);
         Check.same("6 none", x.barred(0), 0);
+        x.hours(0, 3, 3);
+        Check.same("6 none, of 3", x.barred(0), 0);
         x.hours(0, 1440, 1440);
         Check.same("6 none, of 1440", x.barred(0), 0);
         x.hours(0, 3, 4);
@@ -300,6 +304,11 @@ public final class BuildingTest {
         Check.same("14 all cash", x.repay(500), 100);
         Check.same("14 no cash", x.cash(), 0);
         Check.refused("14 no cash left", Check.STATE, () -> x.repay(1));
+        Ironbark y = new Ironbark();
+        y.borrow(50);
+        Check.same("14 all debt", y.repay(50), 0);
+        Check.same("14 asked", y.debt(), 0);
+        Check.refused("14 no debt left", Check.STATE, () -> y.repay(1));
     }
 
     public static void main(String[] arguments) {

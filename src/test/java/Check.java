@@ -33,9 +33,17 @@ final class Check {
         try {
             got = call.answer();
         } catch (RuntimeException e) {
-            got = e.getClass();
+            got = isThrownByProgram(e) ? e.getClass() : e + ", thrown by the machine";
         }
         same(what, got, due);
+    }
+
+    /** Whether the program threw it itself, not the library or the machine within it. */
+    static boolean isThrownByProgram(Throwable e) {
+        Class<?> kind = e.getClass();
+        StackTraceElement[] trace = e.getStackTrace();
+        return (kind == INDEX || kind == ARGUMENT || kind == STATE)
+            && (trace.length == 0 || trace[0].getClassName().startsWith("Ironbark"));
     }
 
     static void refusedDeed(String what, Class<? extends Exception> due, Deed deed) {

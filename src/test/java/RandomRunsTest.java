@@ -49,7 +49,9 @@ public final class RandomRunsTest {
             Object got = m.invoke(of, arguments);
             return got == null ? "nothing" : got;
         } catch (InvocationTargetException e) {
-            return e.getCause().getClass().getName();
+            Throwable cause = e.getCause();
+            boolean isMachine = of instanceof Ironbark && !Check.isThrownByProgram(cause);
+            return cause.getClass().getName() + (isMachine ? " by the machine" : "");
         } catch (IllegalAccessException e) {
             return "not allowed";
         }
@@ -285,7 +287,8 @@ public final class RandomRunsTest {
         }
         for (int i = -odd; alike && i < carsMade + odd; i++) {
             alike = ask("carAt", i) && ask("carByPapers", i) && ask("billOf", i) && ask("homeward", i)
-                && (odd == 0 || ask("paper", i, -1)) && ask("paper", i, below(8));
+                && (odd == 0 || ask("paper", i, -1) && ask("paper", i, Integer.MAX_VALUE)
+                    && ask("yardAt", i, Integer.MAX_VALUE)) && ask("paper", i, below(8));
         }
         return alike;
     }
