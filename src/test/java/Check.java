@@ -14,6 +14,7 @@ final class Check {
 
     private static int asked = 0;
     private static int wrong = 0;
+    private static String about = "";
 
     private Check() {
     }
@@ -23,9 +24,18 @@ final class Check {
         if (!want.equals(got)) {
             wrong++;
             if (wrong <= 50) {
-                System.out.println("  " + what + ": answered " + got + ", due is " + want);
+                System.out.println("  " + about + what + ": answered " + got + ", due is " + want);
             }
         }
+    }
+
+    static int asked() {
+        return asked;
+    }
+
+    /** What the next checks are about; told with each answer that is not as due. */
+    static void isAbout(String text) {
+        about = text;
     }
 
     static void refused(String what, Class<? extends Exception> due, Call call) {
