@@ -1,11 +1,16 @@
 import java.io.IOException;
+import java.lang.reflect.Executable;
+import java.lang.reflect.Field;
+import java.lang.reflect.Modifier;
 import java.nio.file.Files;
 import java.nio.file.Path;
+import java.util.ArrayList;
+import java.util.Arrays;
 import java.util.List;
 import java.util.regex.Matcher;
 import java.util.regex.Pattern;
 
-/** What can be seen in the program's text of the rules in LANGUAGE.md. */
+/** What can be seen in the program's text, and in its classes, of the rules in LANGUAGE.md. */
 public final class LanguageTest {
     private static final String[] NOT_ALLOWED = {"->", "::", "\\bfinally\\b", "\\bsynchronized\\b", "\\bassert\\b",
         "\\bcatch\\b", "\\bpackage\\b", "\\bSystem\\.(?!arraycopy)", "\\bprotected\\b", "\\.equals\\(",
@@ -61,11 +66,41 @@ public final class LanguageTest {
         Check.same("ends with a line", text.endsWith("}\n"), true);
     }
 
+    /** Rule 5: static fields are constants of these kinds; and rule 11: some twenty other ones, seven parameters. */
+    private static void membersOf(Class<?> c) {
+        int fields = 0;
+        for (Field f : c.getDeclaredFields()) {
+            if (Modifier.isStatic(f.getModifiers())) {
+                boolean isConstant = Modifier.isFinal(f.getModifiers())
+                    && f.getType().getSimpleName().matches("int|long|boolean|char|String");
+                Check.same(c.getName() + "." + f.getName() + " is a constant", isConstant, true);
+            } else {
+                fields++;
+            }
+        }
+        Check.same("fields of " + c.getName() + ", " + fields, fields <= 20, true);
+        List<Executable> all = new ArrayList<>(Arrays.asList(c.getDeclaredMethods()));
+        all.addAll(Arrays.asList(c.getDeclaredConstructors()));
+        for (Executable e : all) {
+            Check.same("parameters of " + e, e.getParameterCount() <= 7, true);
+        }
+    }
+
+    private static void classes() {
+        List<Class<?>> all = new ArrayList<>(Arrays.asList(Ironbark.class.getDeclaredClasses()));
+        all.add(Ironbark.class);
+        Check.same("classes, " + all.size(), all.size() <= 12, true);
+        for (Class<?> c : all) {
+            membersOf(c);
+        }
+    }
+
     public static void main(String[] arguments) throws IOException {
         String text = new String(Files.readAllBytes(Path.of("src/main/java/Ironbark.java")));
         words(withoutComments(text));
         lengths(text);
         signs(text);
+        classes();
         Check.end();
     }
 }

@@ -5,15 +5,23 @@ import java.util.Arrays;
 import java.util.List;
 import java.util.TreeMap;
 
-/** Long runs of calls on the program and on the model, whose answers have to be the same. */
+/**
+ * Long runs of calls on the program and on the model, whose answers have to be the same. No object is used for more
+ * calls than the document promises, so each run asks but some of what could be asked.
+ */
 public final class RandomRunsTest {
-    private static final int RUNS = 400;
+    private static final int RUNS = 4000;
     private static final int CALLS = 512;
     /** Calls with random numbers: the rare ones stop trains for long. */
     private static final String[] RARE = {"lay", "engine", "crew", "car", "learn", "tracks", "fail", "fail",
         "hours", "repair", "rest", "borrow", "repay", "dissolve", "rate", "sort", "load", "clear", "await"};
     private static final String[] OFTEN = {"flag", "form", "uncouple", "passSignal", "offer",
         "run", "run", "run", "run", "run", "run"};
+    private static final String[] ASKED = {"clock", "cash", "debt", "broken", "freeTracks", "holder", "holderByTrains",
+        "block", "block", "train", "train", "train", "train", "barred", "barred", "duty", "carAt", "carByPapers", "billOf",
+        "paper", "yardAt", "yardAt", "homeward", "homeward"};
+    /** How many questions there are behind each deed of a run; with none, all are at its end. */
+    private static final int[] QUESTIONS = {0, 0, 1, 2, 4};
 
     private final TreeMap<String, Method> program = methods(Ironbark.class);
     private final TreeMap<String, Method> model = methods(Model.class);
@@ -24,6 +32,7 @@ public final class RandomRunsTest {
     private int blocksLaid;
     private int draftedFrom;
     private int carsMade;
+    private int called;
     private final List<String> history = new ArrayList<>();
 
     private RandomRunsTest(long seed) {
@@ -57,7 +66,12 @@ public final class RandomRunsTest {
         }
     }
 
+    /** Whether both answer the same; what calls behind the last one that is promised answer is free. */
     private boolean ask(String name, Object... arguments) {
+        if (called >= CALLS) {
+            return true;
+        }
+        called++;
         Object due = answer(model.get(name), y, arguments);
         Object got = answer(program.get(name), x, arguments);
         if (!due.equals(got)) {
@@ -139,9 +153,38 @@ public final class RandomRunsTest {
             case "uncouple0":
             case "await0":
             case "passSignal0":
+            case "train0":
+            case "barred0":
                 return below(5);
             case "await1":
                 return below(6) - 1;
+            default:
+                return numberAsked(name, place);
+        }
+    }
+
+    /** A number for a question, mostly one of what there is. */
+    private int numberAsked(String name, int place) {
+        switch (name + place) {
+            case "holder0":
+            case "holderByTrains0":
+            case "block0":
+                return below(blocksLaid + 1);
+            case "carAt0":
+            case "carByPapers0":
+            case "billOf0":
+            case "paper0":
+            case "homeward0":
+                return below(carsMade + 1);
+            case "block1":
+                return below(3);
+            case "train1":
+                return below(7);
+            case "duty0":
+            case "yardAt1":
+                return below(6);
+            case "paper1":
+                return below(below(4) == 0 ? 40 : 6);
             default:
                 return below(name.matches("learn|rest|form") ? 6 : 4);
         }
@@ -264,62 +307,44 @@ public final class RandomRunsTest {
         return ask(name, arguments);
     }
 
-    private boolean allAskedAlike() {
-        // What there is not is asked for now and then alone: it costs the most time.
-        int odd = below(50) == 0 ? 1 : 0;
-        boolean alike = ask("clock") && ask("cash") && ask("debt") && ask("broken");
-        for (int i = -odd; alike && i < blocksLaid + odd; i++) {
-            alike = ask("holder", i) && ask("holderByTrains", i) && ask("block", i, 0) && ask("block", i, 1)
-                && ask("block", i, 2) && (odd == 0 || ask("block", i, 3));
-        }
-        for (int i = -odd; alike && i < 8 + odd; i++) {
-            alike = ask("freeTracks", i);
-            for (int place = -odd; alike && place < 6; place++) {
-                alike = ask("yardAt", i, place);
-            }
-        }
-        for (int i = -odd; alike && i < 6 + odd; i++) {
-            boolean is = told("train", i, 0) >= 0 || odd == 1;
-            alike = ask("duty", i) && (!is || ask("barred", i));
-            for (int what = -odd; alike && is && what < 7 + odd; what++) {
-                alike = ask("train", i, what);
-            }
-        }
-        for (int i = -odd; alike && i < carsMade + odd; i++) {
-            alike = ask("carAt", i) && ask("carByPapers", i) && ask("billOf", i) && ask("homeward", i)
-                && (odd == 0 || ask("paper", i, -1) && ask("paper", i, Integer.MAX_VALUE)
-                    && ask("yardAt", i, Integer.MAX_VALUE)) && ask("paper", i, below(8));
+    /** Asks so much, and looks whether the answers are alike. */
+    private boolean areAskedAlike(int questions) {
+        boolean alike = true;
+        for (int i = 0; alike && i < questions; i++) {
+            String name = ASKED[below(ASKED.length)];
+            alike = ask(name, argumentsFor(name));
         }
         return alike;
+    }
+
+    private boolean isDoneAlike() {
+        switch (below(8)) {
+            case 0:
+                return planSomewhere();
+            case 1:
+                return shunt();
+            case 2:
+                return tryDeeds();
+            default:
+                String[] names = below(5) == 0 ? RARE : OFTEN;
+                String name = names[below(names.length)];
+                return call(name, argumentsFor(name));
+        }
     }
 
     private boolean wholeRun() {
         x = new Ironbark();
         y = new Model();
+        called = 0;
         history.clear();
         draftedFrom = Ironbark.NONE;
+        int deedsEnd = CALLS - below(150);
+        int questions = QUESTIONS[below(QUESTIONS.length)];
         boolean alike = build();
-        while (alike && history.size() < CALLS) {
-            int kind = below(8);
-            if (kind == 0) {
-                alike = planSomewhere();
-            } else if (kind == 1) {
-                alike = shunt();
-            } else if (kind == 2) {
-                alike = tryDeeds();
-            } else {
-                String[] names = below(5) == 0 ? RARE : OFTEN;
-                String name = names[below(names.length)];
-                alike = call(name, argumentsFor(name));
-            }
-            alike = alike && allAskedAlike();
+        while (alike && called < deedsEnd) {
+            alike = isDoneAlike() && areAskedAlike(questions);
         }
-        for (int i = 0; alike && i < carsMade; i++) {
-            for (int paper = 0; alike && paper < 50; paper++) {
-                alike = ask("paper", i, paper);
-            }
-        }
-        return alike;
+        return alike && areAskedAlike(CALLS - called);
     }
 
     public static void main(String[] arguments) {
